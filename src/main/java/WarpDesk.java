@@ -277,7 +277,7 @@ public final class WarpDesk {
         if (what < 0 || what > 1 || !queries.has(query)) {
             return NONE;
         }
-        finder.runSearch(query, settings.valueOf(BAND));
+        finder.findBest(query, settings.valueOf(BAND));
         return what == 0 ? finder.bestWindow : finder.bestDistance;
     }
 
@@ -285,7 +285,7 @@ public final class WarpDesk {
         if (what < 0 || what >= Finder.TALLIES || !queries.has(query)) {
             return NONE;
         }
-        finder.runSearch(query, settings.valueOf(BAND));
+        finder.runSearch(query);
         return finder.tally[what];
     }
 
@@ -356,7 +356,7 @@ public final class WarpDesk {
         if (!isStretch(n) || what < 0 || what > 1 || !series.hasWindow(s, n)) {
             return NONE;
         }
-        stretches.findNearest(s, n, NONE);
+        stretches.findNear(s, n);
         return what == 0 ? stretches.nearest : stretches.nearestDistance;
     }
 
@@ -619,8 +619,13 @@ public final class WarpDesk {
         int readText() {
             begin();
             for (int n = 0; n <= MOST_TOKENS && !isStopped && tape.kind != Tape.END; n++) {
-                readToken();
-                if (!isStopped) {
+                // In this order, for at one place SYNTAX is told ahead of ROOM.
+                if (!mayStand()) {
+                    stop(SYNTAX);
+                } else if (!hasRoom()) {
+                    stop(ROOM);
+                } else {
+                    accept();
                     tape.toNextToken();
                 }
             }
@@ -641,17 +646,6 @@ public final class WarpDesk {
             faultPlace = NONE;
             faultCause = NONE;
             tape.toFirstToken();
-        }
-
-        // In this order, for at one place SYNTAX is told ahead of ROOM.
-        private void readToken() {
-            if (!mayStand()) {
-                stop(SYNTAX);
-            } else if (!hasRoom()) {
-                stop(ROOM);
-            } else {
-                accept();
-            }
         }
 
         // SYNTAX and ROOM come ahead of every other FAULT, wherever that one stands.
@@ -1236,8 +1230,29 @@ public final class WarpDesk {
             isSquare = costKind == Settings.SQUARE;
         }
 
+        void takeLeft(int[] rows, int from) {
+            copyRow(rows, from, left, 0);
+        }
+
+        void takeRight(int[] rows, int from) {
+            copyRow(rows, from, right, 0);
+        }
+
+        void giveLeft(int[] rows, int to) {
+            copyRow(left, 0, rows, to);
+        }
+
+        private void copyRow(int[] source, int from, int[] target, int to) {
+            if (from < 0 || to < 0 || length > source.length - from || length > target.length - to) {
+                return;
+            }
+            for (int i = 0; i < length; i++) {
+                target[to + i] = source[from + i];
+            }
+        }
+
         void bringToLevel(int[] row, int kind) {
-            if (row.length < length || length < 1) {
+            if (length < 1 || length > row.length) {
                 return;
             }
             if (kind == Settings.BY_MEAN) {
@@ -1309,10 +1324,14 @@ public final class WarpDesk {
             int from = Math.max(0, middle - band);
             int to = Math.min(length - 1, middle + band);
             int least = other[from];
-            int greatest = other[from];
+            int greatest = least;
             for (int i = from + 1; i <= to; i++) {
-                least = Math.min(least, other[i]);
-                greatest = Math.max(greatest, other[i]);
+                int around = other[i];
+                if (around < least) {
+                    least = around;
+                } else if (around > greatest) {
+                    greatest = around;
+                }
             }
             if (value > greatest) {
                 return costOf(value, greatest);
@@ -1337,6 +1356,15 @@ public final class WarpDesk {
                 return BY_LATE;
             }
             return laidDistance() >= limit ? BY_LAST : COUNTS;
+        }
+
+        // For what tells no one how WINDOWS were passed: the envelopes' bounds cost more than they spare.
+        boolean isLess(int limit) {
+            if (endsBound() >= limit) {
+                return false;
+            }
+            layTable(limit);
+            return brokenRow == ABSENT && laidDistance() < limit;
         }
 
         int wholeDistance() {
@@ -1369,25 +1397,26 @@ public final class WarpDesk {
                     value += leastAhead(i, j);
                 }
                 table[i * LONGEST + j] = value;
-                cells++;
                 if (value < least) {
                     least = value;
                 }
             }
+            cells += to - from + 1;
             return least;
         }
 
         // Only for places of the table but the first; one ahead is always within the BAND.
         private int leastAhead(int i, int j) {
+            int place = i * LONGEST + j;
             int least = NO_LIMIT;
             if (i > 0 && j > 0) {
-                least = table[(i - 1) * LONGEST + j - 1];
+                least = table[place - LONGEST - 1];
             }
-            if (i > 0 && j - i < band) {
-                least = Math.min(least, table[(i - 1) * LONGEST + j]);
+            if (i > 0 && j - i < band && table[place - LONGEST] < least) {
+                least = table[place - LONGEST];
             }
-            if (j > 0 && i - j < band) {
-                least = Math.min(least, table[i * LONGEST + j - 1]);
+            if (j > 0 && i - j < band && table[place - 1] < least) {
+                least = table[place - 1];
             }
             return least;
         }
@@ -1527,14 +1556,12 @@ public final class WarpDesk {
             queries = bench.queries;
         }
 
-        void runSearch(int q, int band) {
+        void runSearch(int q) {
             for (int i = 0; i < TALLIES; i++) {
                 tally[i] = 0;
             }
-            bestWindow = ABSENT;
-            bestDistance = ABSENT;
             int limit = NO_LIMIT;
-            bench.openQuery(q, band);
+            bench.openQuery(q, bench.settings.valueOf(BAND));
             for (int s = 0; s < series.size; s++) {
                 if (series.hasWindow(s, queries.lengthOf(q))) {
                     bench.laySecondWindow(s);
@@ -1542,8 +1569,6 @@ public final class WarpDesk {
                     addToTally(how);
                     if (how == Fit.COUNTS) {
                         limit = bench.fit.laidDistance();
-                        bestWindow = s;
-                        bestDistance = limit;
                     }
                 }
             }
@@ -1562,10 +1587,27 @@ public final class WarpDesk {
             }
         }
 
+        void findBest(int q, int band) {
+            bestWindow = ABSENT;
+            bestDistance = ABSENT;
+            int limit = NO_LIMIT;
+            bench.openQuery(q, band);
+            for (int s = 0; s < series.size; s++) {
+                if (series.hasWindow(s, queries.lengthOf(q))) {
+                    bench.laySecondWindow(s);
+                    if (bench.fit.isLess(limit)) {
+                        limit = bench.fit.laidDistance();
+                        bestWindow = s;
+                        bestDistance = limit;
+                    }
+                }
+            }
+        }
+
         int neededBand(int q, int s) {
             // With a BAND of a QUERY's length less 1 the whole table is laid: more changes nothing.
             for (int band = 0; band < queries.lengthOf(q); band++) {
-                runSearch(q, band);
+                findBest(q, band);
                 if (bestWindow == s) {
                     return band;
                 }
@@ -1750,7 +1792,10 @@ public final class WarpDesk {
     /** WINDOWS of one length that are n or more places apart: NEAR, PAIR and the ODD one. */
     private static final class Stretches {
         private final Bench bench;
-        private final Series series;
+        private final Fit fit;
+        // Of each place the WINDOW there at its LEVEL, brought to it once for all it is held against.
+        private final int[] rows = new int[MOST_PLACES * LONGEST];
+        private final boolean[] isThere = new boolean[MOST_PLACES];
         int nearest;
         int nearestDistance;
         int pairLesser;
@@ -1761,22 +1806,37 @@ public final class WarpDesk {
 
         Stretches(Bench bench) {
             this.bench = bench;
-            series = bench.series;
+            fit = bench.fit;
+        }
+
+        private void bringAll(int n) {
+            for (int s = 0; s < MOST_PLACES; s++) {
+                isThere[s] = bench.series.hasWindow(s, n);
+                if (isThere[s]) {
+                    bench.openWindow(s, n);
+                    fit.giveLeft(rows, s * LONGEST);
+                }
+            }
+        }
+
+        void findNear(int s, int n) {
+            bringAll(n);
+            findNearest(s, n, NONE);
         }
 
         // Breaks off at a DISTANCE of no more than enough: the ODD one asks for none nearer than that.
-        void findNearest(int s, int n, int enough) {
+        private void findNearest(int s, int n, int enough) {
             nearest = ABSENT;
             nearestDistance = ABSENT;
             int limit = NO_LIMIT;
-            bench.openWindow(s, n);
-            for (int t = 0; t < series.size && limit > enough; t++) {
-                if (Math.abs(t - s) < n || !series.hasWindow(t, n)) {
+            fit.takeLeft(rows, s * LONGEST);
+            for (int t = 0; t < MOST_PLACES && limit > enough; t++) {
+                if (!isThere[t] || Math.abs(t - s) < n) {
                     continue;
                 }
-                bench.laySecondWindow(t);
-                if (bench.fit.lookAt(limit) == Fit.COUNTS) {
-                    limit = bench.fit.laidDistance();
+                fit.takeRight(rows, t * LONGEST);
+                if (fit.isLess(limit)) {
+                    limit = fit.laidDistance();
                     nearest = t;
                     nearestDistance = limit;
                 }
@@ -1787,25 +1847,25 @@ public final class WarpDesk {
             pairLesser = ABSENT;
             pairGreater = ABSENT;
             pairDistance = ABSENT;
-            for (int s = 0; s < series.size; s++) {
-                if (series.hasWindow(s, n)) {
-                    bench.openWindow(s, n);
-                    betterPairWith(s, n);
+            bringAll(n);
+            for (int s = 0; s < MOST_PLACES; s++) {
+                if (isThere[s]) {
+                    fit.takeLeft(rows, s * LONGEST);
+                    seekPairOf(s, n);
                 }
             }
         }
 
-        private void betterPairWith(int s, int n) {
-            for (int t = s + n; t < series.size; t++) {
-                if (!series.hasWindow(t, n)) {
+        private void seekPairOf(int s, int n) {
+            for (int t = s + n; t < MOST_PLACES; t++) {
+                if (!isThere[t]) {
                     continue;
                 }
-                bench.laySecondWindow(t);
-                int limit = pairDistance < 0 ? NO_LIMIT : pairDistance;
-                if (bench.fit.lookAt(limit) == Fit.COUNTS) {
+                fit.takeRight(rows, t * LONGEST);
+                if (fit.isLess(pairDistance < 0 ? NO_LIMIT : pairDistance)) {
                     pairLesser = s;
                     pairGreater = t;
-                    pairDistance = bench.fit.laidDistance();
+                    pairDistance = fit.laidDistance();
                 }
             }
         }
@@ -1813,13 +1873,15 @@ public final class WarpDesk {
         void findOdd(int n) {
             oddWindow = ABSENT;
             oddDistance = ABSENT;
-            for (int s = 0; s < series.size; s++) {
-                if (series.hasWindow(s, n)) {
-                    findNearest(s, n, oddDistance);
-                    if (nearest >= 0 && nearestDistance > oddDistance) {
-                        oddWindow = s;
-                        oddDistance = nearestDistance;
-                    }
+            bringAll(n);
+            for (int s = 0; s < MOST_PLACES; s++) {
+                if (!isThere[s]) {
+                    continue;
+                }
+                findNearest(s, n, oddDistance);
+                if (nearest >= 0 && nearestDistance > oddDistance) {
+                    oddWindow = s;
+                    oddDistance = nearestDistance;
                 }
             }
         }

@@ -115,6 +115,7 @@ public final class TextTest {
         }
         Due.is("query", desk.query(0, 1), -6);
         Due.desk("query series 1 2; query gap 3 4; query none 5 6;");
+        Due.desk("query az 1 2; query zy 3 4; series 90 9;");
         Due.desk("series; series -0 999 -999;");
         Due.fault("query abcdefghi 1 2;", 1, 6, 0);
         Due.fault("series 12345;", 1, 7, 0);
