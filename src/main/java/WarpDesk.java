@@ -676,7 +676,7 @@ public final class WarpDesk {
                 case IN_QUERY:
                     return mayStandInRow();
                 case AT_NAME:
-                    return tape.kind == Tape.LETTERS;
+                    return isNameAtHand();
                 case AT_NUMBER:
                     return tape.kind == Tape.INT;
                 case AT_CHOICE:
@@ -684,6 +684,12 @@ public final class WarpDesk {
                 default:
                     return tape.kind == Tape.SEMICOLON;
             }
+        }
+
+        // WORDS and NAMES are two kinds of TOKENS, so letters that are a WORD are no NAME.
+        private boolean isNameAtHand() {
+            boolean isWord = tellAtHand() >= 0 || levelAtHand() >= 0 || costAtHand() >= 0 || tape.isWord("gap");
+            return tape.kind == Tape.LETTERS && !isWord;
         }
 
         private boolean mayStandInRow() {

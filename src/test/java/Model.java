@@ -65,9 +65,8 @@ final class Model {
         Map.entry("level", 'L'), Map.entry("cost", 'C'), Map.entry("gap", 'G'), Map.entry("none", 'n'),
         Map.entry("mean", 'm'), Map.entry("first", 'f'), Map.entry("range", 'r'), Map.entry("plain", 'p'),
         Map.entry("square", 's'));
-    private static final String NAME = "[SQBALCGnmfrpsx]";
     private static final Pattern TEXT = Pattern.compile(
-        "(?:S(?:G|-?I)*+;|Q" + NAME + "(?:-?I)*+;|[BA]I;|L[nmfr];|C[ps];)*+");
+        "(?:S(?:G|-?I)*+;|Qx(?:-?I)*+;|[BA]I;|L[nmfr];|C[ps];)*+");
 
     private static List<Token> tokens(String text) {
         List<Token> tokens = new ArrayList<>();
@@ -148,7 +147,6 @@ final class Model {
         for (int i = 0; i < tokens.size(); i++) {
             Token token = tokens.get(i);
             boolean isNegated = i > 0 && tokens.get(i - 1).sign() == '-';
-            boolean isName = i > 0 && tokens.get(i - 1).sign() == 'Q' && (i < 2 || tokens.get(i - 2).sign() == ';');
             boolean isFirst = i == 0 || (tokens.get(i - 1).sign() == ';');
             if (i >= 400) {
                 tell(2, token.place(), why);
@@ -162,7 +160,7 @@ final class Model {
                 if (tell == 'Q') {
                     toldQueries.add(new int[0]);
                 }
-            } else if (isName) {
+            } else if (token.sign() == 'x') {
                 if (!names.add(token.text())) {
                     tell(3, token.place(), why);
                 }

@@ -56,6 +56,25 @@ public final class ModelTest {
         return random.nextInt(400) == 0 ? "1000" : value < 0 ? "-" + -value : "" + value;
     }
 
+    private static final String[] WORDS = {"series", "gap", "query", "band", "level", "none", "mean", "first",
+        "range", "cost", "plain", "square", "apart"};
+
+    private String name(int q) {
+        String word = WORDS[random.nextInt(WORDS.length)];
+        switch (random.nextInt(60)) {
+            case 0:
+                return "a";
+            case 1:
+                return word;
+            case 2:
+                return word + "s";
+            case 3:
+                return word.substring(1);
+            default:
+                return "" + (char) ('a' + q);
+        }
+    }
+
     private String randomText() {
         StringBuilder text = new StringBuilder();
         int series = 1 + random.nextInt(2);
@@ -69,8 +88,7 @@ public final class ModelTest {
         }
         int queries = random.nextInt(12) == 0 ? 6 : 1 + random.nextInt(5);
         for (int q = 0; q < queries; q++) {
-            String name = random.nextInt(60) == 0 ? "a" : random.nextInt(30) == 0 ? "gap" : "" + (char) ('a' + q);
-            text.append(" query ").append(name);
+            text.append(" query ").append(name(q));
             int length = random.nextInt(40) == 0 ? 1 + 16 * random.nextInt(2) : 2 + random.nextInt(15);
             length = random.nextBoolean() && length <= 16 ? 2 + length / 4 : length;
             for (int i = 0; i < length; i++) {

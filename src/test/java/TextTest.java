@@ -7,6 +7,7 @@ public final class TextTest {
         promise4ReadTakesTheTextInPlace();
         promise4FaultyTextChangesNothing();
         promise4Tokens();
+        promises4To6WordForName();
         promises4To6Syntax();
         promises4To6Room();
         promises4To6Later();
@@ -114,7 +115,6 @@ public final class TextTest {
             Due.is("place " + i, desk.at(i), places[i]);
         }
         Due.is("query", desk.query(0, 1), -6);
-        Due.desk("query series 1 2; query gap 3 4; query none 5 6;");
         Due.desk("query az 1 2; query zy 3 4; series 90 9;");
         Due.desk("series; series -0 999 -999;");
         Due.fault("query abcdefghi 1 2;", 1, 6, 0);
@@ -124,6 +124,40 @@ public final class TextTest {
         Due.fault("Series 1;", 1, 0, -2);
         Due.fault("band 5, ;", 1, 6, -2);
         Due.fault("band\f5;", 1, 4, -2);
+    }
+
+    private static void promises4To6WordForName() {
+        String[] words = {"series", "gap", "query", "band", "level", "none", "mean", "first", "range", "cost",
+            "plain", "square", "apart"};
+        for (String word : words) {
+            Due.fault("query " + word + " 1 2;", 1, 6, 0);
+            Due.fault("query " + word, 1, 6, 0);
+            Due.fault("query\n" + word + "-1 2;", 1, 6, 0);
+            Due.fault("series 1 2 gap; query a 3 4; query " + word + " 5 6;", 1, 35, 0);
+            Due.fault("query a 1; query " + word + " 1 2;", 1, 17, 0);
+            Due.fault("query a 1 2; query " + word + " 1 2; query " + word + " 1 2;", 1, 19, 0);
+            Due.fault("query a 1 " + word + ";", 1, 10, 1);
+            // Letters that only begin like a WORD, or are the head or the end of one, are a NAME.
+            String longer = word + "x";
+            String shorter = word.substring(0, word.length() - 1);
+            String end = word.substring(1);
+            WarpDesk desk = Due.desk("query " + longer + " 1 2; query " + shorter + " 3 4; query " + end + " 5 6;");
+            Due.is("queries of names like " + word, desk.count(2), 3);
+            Due.is("reading of " + longer, desk.query(0, 0), 1);
+            Due.is("reading of " + shorter, desk.query(1, 0), 3);
+            Due.is("reading of " + end, desk.query(2, 0), 5);
+        }
+        Due.desk("query reading 1 2; query tell 3 4; query text 5 6; query name 7 8; query int 9 9;");
+        WarpDesk desk = Due.desk("series 1; query a 1 2;");
+        Due.is("a word for a name", Due.read(desk, "series 2; query apart 3 4;"), 1);
+        Due.is("the series stays", desk.at(0), 1);
+        Due.is("the query stays", desk.query(0, 1), 2);
+        String five = "query a 1 2;query b 1 2;query c 1 2;query d 1 2;query e 1 2;";
+        Due.fault(five + "query gap 1 2;", 2, five.length(), -2);
+        // The 401st TOKEN: at one place SYNTAX is told ahead of ROOM.
+        String tokens = "band 1;".repeat(133) + "query ";
+        Due.fault(tokens + "gap", 1, tokens.length(), 0);
+        Due.fault(tokens + "gaps", 2, tokens.length(), 0);
     }
 
     private static void promises4To6Syntax() {
