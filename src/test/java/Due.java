@@ -4,15 +4,21 @@ import java.nio.charset.StandardCharsets;
 final class Due {
     private static int wrong = 0;
     private static int asked = 0;
+    private static String sentence = "";
 
     private Due() {
+    }
+
+    /** The document's words that the next answers hold: told with each one that is wrong. */
+    static void says(String words) {
+        sentence = "[" + words + "] ";
     }
 
     static void is(String call, long got, long want) {
         asked++;
         if (got != want) {
             wrong++;
-            System.out.println(call + " answered " + got + ", due is " + want);
+            System.out.println(sentence + call + " answered " + got + ", due is " + want);
         }
     }
 
