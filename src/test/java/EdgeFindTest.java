@@ -141,6 +141,14 @@ public final class EdgeFindTest {
         Due.is("the last is less", of("3 3 3 2").best(0, 0), 2);
         Due.is("the last is alike", of("9 3 3 9 3 3").best(0, 0), 1);
         Due.is("behind a GAP", of("9 9 gap 1 1").best(0, 0), 3);
+        // (0 2 8) is at 8, and would be passed by LAST with a LIMIT of 7 or 8.
+        int[] ends = {-5, -6, -7};
+        int[] windows = {0, 0, 4};
+        for (int i = 0; i < ends.length; i++) {
+            WarpDesk desk = limited("0 8 2", "0 8 " + ends[i], "0 2 8");
+            Due.is("beside a later one, end " + ends[i], desk.best(0, 0), windows[i]);
+            Due.is("its distance", desk.best(0, 1), Math.min(8, 2 - ends[i]));
+        }
     }
 
     private static void bestAtTheEdgesOfTheSeries() {
@@ -603,6 +611,10 @@ public final class EdgeFindTest {
         turns("9 1 5 5 1", 1);
         turns("9 1 5 5 1 9", 2);
         turns("9 1 1 9 1 1 9 1 1 9", 3);
+        // 10 3 7 14; 14 10 3 7 14; 10 3 7 14 10 12 19.
+        turns("9 1 2 5 9", 1);
+        turns("5 9 1 2 5 9", 1);
+        turns("9 1 2 5 9 1 11 8", 2);
         turns("1 9 9 1", 0);
     }
 

@@ -21,6 +21,7 @@ public final class EdgeStretchTest {
         oddOfAlikeOnesTheFirst();
         oddPassesOverThoseWithoutNear();
         oddNone();
+        farOnesAreNotTakenForNear();
         bandLevelAndCostCount();
         inAFullSeries();
         Due.end();
@@ -231,6 +232,27 @@ public final class EdgeStretchTest {
         odd(of("gap gap gap gap gap"), 2, -2, -2);
         odd(of("1 2 3 4 5"), 3, -2, -2);
         odd(of("1 2 3 4 5 6"), 3, 0, 9);
+    }
+
+    /**
+     * Of BAND 1, the table of (0 8 2) and (0 2 8): 0 2 / 8 6 2 / 6 8. It is broken off nowhere under a
+     * LIMIT of 7 or 8, and yet the DISTANCE is not less.
+     */
+    private static void farOnesAreNotTakenForNear() {
+        Due.says("NEAR, PAIR, ODD: the least DISTANCE, of alike ones the first");
+        WarpDesk less = of("0 8 2 gap 0 8 -5 gap 0 2 8");
+        less.set(0, 1);
+        near(less, 0, 3, 4, 7);
+        near(less, 4, 3, 0, 7);
+        near(less, 8, 3, 0, 8);
+        pair(less, 3, 0, 4, 7);
+        odd(less, 3, 8, 8);
+        WarpDesk alike = of("0 8 2 gap 0 8 -6 gap 0 2 8");
+        alike.set(0, 1);
+        near(alike, 0, 3, 4, 8);
+        near(alike, 8, 3, 0, 8);
+        pair(alike, 3, 0, 4, 8);
+        odd(alike, 3, 0, 8);
     }
 
     // ---- what is set, and the greatest SERIES

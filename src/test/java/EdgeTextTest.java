@@ -9,6 +9,7 @@ public final class EdgeTextTest {
 
     public static void main(String[] args) {
         tokensAreTheLongestThatCanBe();
+        wordsAreThoseInQuotes();
         blanksStandBetweenOrNot();
         namesHave8LettersAtMost();
         intsHave1To4Digits();
@@ -33,6 +34,7 @@ public final class EdgeTextTest {
         ofOnePlaceTheLeast();
         causeInEachTell();
         causeWithoutFault();
+        eachTextIsReadForItself();
         faultyTextChangesNothing();
         goodTextIsInPlaceOfTheOneAhead();
         goodTextLeavesNothingUndoneOrHeld();
@@ -64,6 +66,21 @@ public final class EdgeTextTest {
         Due.fault("level means;", 1, 6, -2);
         reads("query gapgap 1 2;", 0, 1);
         reads("query bands 1 2;", 0, 1);
+    }
+
+    private static void wordsAreThoseInQuotes() {
+        Due.says("WORDS (those in quotes): letters that differ in one are a NAME");
+        String[] heads = {"", "series ", "", "", "", "level ", "level ", "level ", "level ", "", "cost ", "cost ", ""};
+        String[] tails = {";", ";", " a 1 2;", " 1;", " mean;", ";", ";", ";", ";", " plain;", ";", ";", " 1;"};
+        for (int w = 0; w < WORDS.length; w++) {
+            reads(heads[w] + WORDS[w] + tails[w], w == 1 ? 1 : 0, w == 2 ? 1 : 0);
+            for (int i = 0; i < WORDS[w].length(); i++) {
+                char other = WORDS[w].charAt(i) == 'q' ? 'z' : 'q';
+                String near = WORDS[w].substring(0, i) + other + WORDS[w].substring(i + 1);
+                Due.fault(heads[w] + near + tails[w], 1, heads[w].length(), w == 1 ? 0 : -2);
+                reads("query " + near + " 1 2;", 0, 1);
+            }
+        }
     }
 
     private static void blanksStandBetweenOrNot() {
@@ -587,6 +604,40 @@ public final class EdgeTextTest {
     }
 
     // ---- what a text changes
+
+    private static void eachTextIsReadForItself() {
+        Due.says("4: the tape is read: nothing of a text ahead of it counts");
+        WarpDesk desk = new WarpDesk();
+        Due.is("a text broken off behind '-'", Due.read(desk, "series 1 -"), 1);
+        Due.is("the next one", Due.read(desk, "series 5 gap;query a 6 7;"), 0);
+        Due.is("its first READING", desk.at(0), 5);
+        Due.is("a QUERY broken off behind '-'", Due.read(desk, "query a 1 -"), 1);
+        Due.is("the next one", Due.read(desk, "query a 6 7;"), 0);
+        Due.is("its first READING", desk.query(0, 0), 6);
+        for (String broken : new String[] {"series 1 2", "query a 1 2", "query", "band", "level", "cost plain"}) {
+            Due.is(broken, Due.read(desk, broken), 1);
+            Due.is("a FAULT elsewhere", Due.read(desk, ","), 1);
+            Due.is("its CAUSE", desk.cause(), -2);
+            Due.is("its place", desk.place(), 0);
+            Due.is("a good text", Due.read(desk, "series 3;"), 0);
+            Due.is("its place", desk.at(0), 3);
+            Due.is("its places", desk.count(0), 1);
+        }
+        WarpDesk full = new WarpDesk();
+        for (int time = 0; time < 3; time++) {
+            Due.is("400 TOKENS", Due.read(full, tokens(400)), 0);
+            Due.is("401 TOKENS", Due.read(full, tokens(401)), 2);
+        }
+        WarpDesk places = new WarpDesk();
+        for (int time = 0; time < 3; time++) {
+            Due.is("160 places", Due.read(places, "series" + "-1".repeat(160) + ";"), 0);
+            Due.is("161 places", Due.read(places, "series" + "-1".repeat(161) + ";"), 2);
+            Due.is("five QUERIES", Due.read(places, FIVE), 0);
+            Due.is("six QUERIES", Due.read(places, FIVE + "query f 1 2;"), 2);
+            Due.is("a SHORT one", Due.read(places, "query a 1;"), 6);
+            Due.is("a WRONG one", Due.read(places, "band 16;"), 5);
+        }
+    }
 
     private static void faultyTextChangesNothing() {
         Due.says("A text with a FAULT changes nothing but the tape and what place() and cause() tell");

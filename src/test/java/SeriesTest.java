@@ -142,11 +142,16 @@ public final class SeriesTest {
         Due.is("at 4", desk.at(4), 4);
     }
 
-    private static void promise14WhatWasDroppedComesBack() {
+    private static WarpDesk pushedFull() {
         WarpDesk desk = new WarpDesk();
         for (int i = 0; i < 160; i++) {
             desk.push(i);
         }
+        return desk;
+    }
+
+    private static void promise14WhatWasDroppedComesBack() {
+        WarpDesk desk = pushedFull();
         desk.drop(160);
         for (int i = 0; i < 39; i++) {
             desk.push(900 + i);
@@ -157,15 +162,16 @@ public final class SeriesTest {
         for (int i = 0; i < 160; i++) {
             Due.is("came back: " + i, desk.at(i), i);
         }
+        WarpDesk other = pushedFull();
         for (int i = 0; i < 20; i++) {
-            desk.drop(1);
-            desk.push(500 + i);
+            other.drop(1);
+            other.push(500 + i);
         }
         for (int i = 0; i < 40; i++) {
-            desk.undo();
+            other.undo();
         }
         for (int i = 0; i < 160; i++) {
-            Due.is("came back again: " + i, desk.at(i), i);
+            Due.is("came back again: " + i, other.at(i), i);
         }
     }
 

@@ -54,22 +54,19 @@ final class Twins {
     }
 
     private static void hiddenIsAlike(String call, Supplier<WarpDesk> made, ToLongFunction<WarpDesk> refused) {
-        for (int way = 0; way < 5; way++) {
+        for (String way : new String[] {"restore 0", "restore 1", "restore 2", "undo", "read"}) {
             WarpDesk asked = made.get();
             refused.applyAsLong(asked);
-            alike(call + ", then way " + way, hidden(asked, way), hidden(made.get(), way));
+            alike(call + ", then " + way, hidden(asked, way), hidden(made.get(), way));
         }
     }
 
-    private static List<Long> hidden(WarpDesk desk, int way) {
-        if (way == 3) {
-            return undone(desk);
-        }
+    private static List<Long> hidden(WarpDesk desk, String way) {
         List<Long> answers = new ArrayList<>();
-        if (way == 4) {
-            answers.add((long) desk.read());
-        } else {
-            answers.add(desk.restore(way) ? 1L : 0L);
+        switch (way) {
+            case "undo" -> answers.addAll(undone(desk));
+            case "read" -> answers.add((long) desk.read());
+            default -> answers.add(desk.restore(way.charAt(8) - '0') ? 1L : 0L);
         }
         answers.addAll(standing(desk));
         return answers;
