@@ -19,6 +19,7 @@ public final class EdgeFitTest {
         distanceWithTheWidestBands();
         distancePlainAndSquare();
         distanceOfTheGreatestReadings();
+        distanceOfRowsEachAtItsLevel();
         distanceIsTheLeastOfAllWays();
         boundEnds();
         boundOverAndBackAtTheEnvelope();
@@ -174,6 +175,32 @@ public final class EdgeFitTest {
             desk.set(0, band);
             Due.is("first, square, band " + band, desk.distance(0, 0), square[2]);
         }
+    }
+
+    private static void atLevel(int level, String one, String other, int due) {
+        WarpDesk desk = Due.desk("series " + other + "; query a " + one + "; query b " + other + "; band 0;");
+        desk.set(1, level);
+        Due.is("QUERY and WINDOW, level " + level + ": " + one + " and " + other, desk.distance(0, 0), due);
+        Due.is("two QUERIES, level " + level + ": " + one + " and " + other, desk.alike(0, 1), due);
+        Due.is("turned over, level " + level + ": " + one + " and " + other, desk.alike(1, 0), due);
+        Due.is("itself", desk.distance(1, 0), 0);
+    }
+
+    private static void distanceOfRowsEachAtItsLevel() {
+        Due.says("DISTANCE of two rows of one length n, each brought to its LEVEL");
+        atLevel(0, "1 2", "11 12", 20);
+        // mean: (1 0) and (1 0); (0 1 1) and (0 1 1); (0 1) and (1 0).
+        atLevel(1, "-1 -2", "1 0", 0);
+        atLevel(1, "-1 0 0", "5 6 6", 0);
+        atLevel(1, "3 4", "-3 -4", 2);
+        // first: (0 2 -2) and (0 2 -2); (0 -1998) and (0 1998).
+        atLevel(2, "5 7 3", "-1 1 -3", 0);
+        atLevel(2, "999 -999", "-999 999", 3996);
+        // range: (0 0) and (0 0); (0 0) and (0 1000); (0 333 1000) twice; (0 333 1000) and (0 666 1000).
+        atLevel(3, "7 7", "0 0", 0);
+        atLevel(3, "7 7", "3 4", 1000);
+        atLevel(3, "0 1 3", "10 12 16", 0);
+        atLevel(3, "0 1 3", "0 2 3", 333);
     }
 
     /** Goes every way for itself, without a table. */

@@ -441,6 +441,15 @@ public final class EdgeTextTest {
             Due.fault(four + "query " + name + " 5 6;", 3, 54, 0);
         }
         reads("query ab 1 2;query ba 1 2;query a 1 2;query b 1 2;query abc 1 2;", 0, 5);
+        Due.says("TWICE: whatever stands behind the NAME");
+        String[] behind = {" 1 2;", "1 2;", "-1 2;", "\n1 2;", " - 1 2;"};
+        for (String one : behind) {
+            for (String other : behind) {
+                Due.fault("query ab" + one + "query ab" + other, 3, one.length() + 14, 0);
+                reads("query ab" + one + "query abb" + other + "query aa" + other, 0, 3);
+            }
+        }
+        Due.fault("query ab 1 2;query ab;", 3, 19, 0);
         WarpDesk desk = Due.desk("query a 1 2;");
         Due.is("a NAME of the text ahead", Due.read(desk, "query a 3 4;"), 0);
         Due.is("its READING", desk.query(0, 0), 3);

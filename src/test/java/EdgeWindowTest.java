@@ -1,3 +1,5 @@
+import java.util.Arrays;
+
 /**
  * The edges that the document names for one WINDOW, its LEVEL, rows without a GAP and counts
  * (promises 15, 16, 37, 38, 42 and "WINDOW" and "LEVEL" of "Terms"), sentence by sentence.
@@ -9,6 +11,7 @@ public final class EdgeWindowTest {
 
     public static void main(String[] args) {
         windowOfEachLength();
+        windowAmongOthers();
         windowOverAGap();
         windowForOthers();
         windowRoundsItsMeanDown();
@@ -18,6 +21,7 @@ public final class EdgeWindowTest {
         levelFirst();
         levelRange();
         levelRangeOfAlikeOnes();
+        levelAmongOthers();
         levelOfEachLength();
         levelForOthers();
         flatOfEachLength();
@@ -57,6 +61,30 @@ public final class EdgeWindowTest {
                 Due.is("least of " + s + " " + n, desk.window(s, n, 1), isThere ? low : OTHER);
                 Due.is("greatest of " + s + " " + n, desk.window(s, n, 2), isThere ? high : OTHER);
                 Due.is("mean of " + s + " " + n, desk.window(s, n, 3), isThere ? Math.floorDiv(low + high, 2) : OTHER);
+            }
+        }
+    }
+
+    private static void windowAmongOthers() {
+        Due.says("15: of a WINDOW, not of what is beside it");
+        String[] rows = {"9 8 7 6 5 4", "4 5 6 7 8 9", "0 5 5 5 0", "9 5 5 5 9", "-9 -5 -6 -5 -9", "1 -1 1 -1 1"};
+        for (String text : rows) {
+            WarpDesk desk = Due.desk("series " + text + ";");
+            int[] row = Arrays.stream(text.split(" ")).mapToInt(Integer::parseInt).toArray();
+            for (int s = 0; s < row.length; s++) {
+                int sum = 0;
+                int least = 1000;
+                int greatest = -1000;
+                for (int n = 1; s + n <= row.length; n++) {
+                    int newest = row[s + n - 1];
+                    sum += newest;
+                    least = Math.min(least, newest);
+                    greatest = Math.max(greatest, newest);
+                    Due.is("sum of " + s + " " + n + " of " + text, desk.window(s, n, 0), sum);
+                    Due.is("least of " + s + " " + n + " of " + text, desk.window(s, n, 1), least);
+                    Due.is("greatest of " + s + " " + n + " of " + text, desk.window(s, n, 2), greatest);
+                    Due.is("mean of " + s + " " + n + " of " + text, desk.window(s, n, 3), Math.floorDiv(sum, n));
+                }
             }
         }
     }
@@ -191,6 +219,22 @@ public final class EdgeWindowTest {
         levels(3, "0 0", 0, 0);
         levels(3, "-999" + " -999".repeat(15), new int[16]);
         levels(3, "999 999 999", 0, 0, 0);
+    }
+
+    private static void levelAmongOthers() {
+        Due.says("LEVEL of a row of READINGS, not of what is beside it");
+        WarpDesk alone = Due.desk("series 3 -4 8 5;");
+        WarpDesk among = Due.desk("series -999 999 3 -4 8 5 999 -999;");
+        for (int level = 0; level < 4; level++) {
+            alone.set(1, level);
+            among.set(1, level);
+            for (int n = 2; n <= 4; n++) {
+                for (int i = 0; i < n; i++) {
+                    Due.is("level " + level + " of " + n + ": " + i, among.level(2, n, i), alone.level(0, n, i));
+                    Due.is("level " + level + " of the last " + n + ": " + i, among.level(6 - n, n, i), alone.level(4 - n, n, i));
+                }
+            }
+        }
     }
 
     private static void levelOfEachLength() {
