@@ -8,6 +8,8 @@ public final class EdgeStretchTest {
 
     public static void main(String[] args) {
         eachLength();
+        eachLengthOfUnlikeOnes();
+        oneLengthBehindAnother();
         noSuchLength();
         noSuchWhat();
         nearIsNOrMorePlacesAway();
@@ -70,6 +72,43 @@ public final class EdgeStretchTest {
             near(more, 1, n, n + 1, 0);
             near(more, n + 1, n, 0, 0);
             pair(more, n, 0, n, 0);
+        }
+    }
+
+    /** Three rows of one length: (0 .. 0 5), (9 .. 9), (0 .. 0 7), a GAP between them. */
+    private static void eachLengthOfUnlikeOnes() {
+        Due.says("NEAR, PAIR, ODD of each length n (2 .. 16), of WINDOWS that are not alike");
+        for (int n = 2; n <= 16; n++) {
+            String zeros = " 0".repeat(n - 1);
+            WarpDesk desk = of(zeros + " 5 gap" + " 9".repeat(n) + " gap" + zeros + " 7");
+            int middle = n + 1;
+            int last = 2 * n + 2;
+            near(desk, 0, n, last, 2);
+            near(desk, last, n, 0, 2);
+            near(desk, middle, n, last, 9 * (n - 1) + 2);
+            pair(desk, n, 0, last, 2);
+            odd(desk, n, middle, 9 * (n - 1) + 2);
+        }
+    }
+
+    private static void oneLengthBehindAnother() {
+        Due.says("NEAR, PAIR, ODD: nothing of a call ahead counts");
+        StringBuilder text = new StringBuilder();
+        for (int i = 0; i < 60; i++) {
+            text.append(i * i * 7 % 31).append(i == 40 ? " gap " : " ");
+        }
+        String series = text.toString();
+        WarpDesk up = of(series);
+        WarpDesk down = of(series);
+        for (int k = 0; k < 15; k++) {
+            int[] lengths = {2 + k, 16 - k};
+            for (WarpDesk desk : new WarpDesk[] {up, down}) {
+                int n = lengths[desk == up ? 0 : 1];
+                near(desk, 0, n, of(series).near(0, n, 0), of(series).near(0, n, 1));
+                near(desk, 20, n, of(series).near(20, n, 0), of(series).near(20, n, 1));
+                pair(desk, n, of(series).pair(n, 0), of(series).pair(n, 1), of(series).pair(n, 2));
+                odd(desk, n, of(series).odd(n, 0), of(series).odd(n, 1));
+            }
         }
     }
 
