@@ -46,6 +46,10 @@ public final class EdgeFindTest {
         firedAtItsLimit();
         firedByTheNewestWindow();
         firedWithALimitBelow0();
+        bandCountsInEachCall();
+        levelAndCostCountInEachCall();
+        inAFullSeries();
+        nothingOfACallAheadCounts();
         asksChangeNothing();
         Due.end();
     }
@@ -683,6 +687,126 @@ public final class EdgeFindTest {
             Due.is("fired " + limit, zeros().fired(limit), -1);
             Due.is("fired " + limit, new WarpDesk().fired(limit), -1);
         }
+    }
+
+    // ---- what is set counts in each call
+
+    /** Two WINDOWS and how far they are: all calls that rank them. */
+    private static void ranked(WarpDesk desk, int better, int less, int worse, int more) {
+        Due.is("best", desk.best(0, 0), better);
+        Due.is("best's distance", desk.best(0, 1), less);
+        matches(desk, better, worse);
+        Due.is("match's distance", desk.match(0, 0, 1), less);
+        Due.is("next match's distance", desk.match(0, 1, 1), more);
+        Due.is("within", desk.within(0, less), 1);
+        Due.is("within just less than the other", desk.within(0, more - 1), 1);
+        Due.is("within both", desk.within(0, more), 2);
+        int n = Math.abs(better - worse) - 1;
+        Due.is("cover", desk.cover(0, less), n);
+        Due.is("cover of both", desk.cover(0, more), 2 * n);
+        Due.is("kth 0", desk.kth(0, 0, 0), better);
+        Due.is("kth 0's distance", desk.kth(0, 0, 1), less);
+        Due.is("kth 1", desk.kth(0, 1, 0), worse);
+        Due.is("kth 1's distance", desk.kth(0, 1, 1), more);
+        Due.is("rank", desk.rank(0, better), 0);
+        Due.is("rank", desk.rank(0, worse), 1);
+        Due.is("counted", desk.search(0, 7), better < worse ? 1 : 2);
+    }
+
+    private static void bandCountsInEachCall() {
+        Due.says("DISTANCE over places no more than BAND apart: in each call");
+        WarpDesk desk = Due.desk("series 0 8 1 0 gap 0 0 9 0; query a 0 9 0 0; query b 0 0 8 2; apart 1; band 1;");
+        ranked(desk, 5, 0, 0, 2);
+        Due.is("whose", desk.whose(5, 4), 0);
+        Due.is("fired", desk.fired(2), 1);
+        desk.set(0, 0);
+        ranked(desk, 0, 2, 5, 18);
+        Due.is("whose", desk.whose(5, 4), 1);
+        Due.is("fired", desk.fired(3), 2);
+        WarpDesk three = Due.desk("series 0 8 1 0 gap 0 0 9 0 gap 0 8 1 0; query a 0 9 0 0; band 1;");
+        Due.is("turns of 2 0 2", three.turns(0), 1);
+        // (0 8 1 0) is at 2, and its BACK is 1.
+        Due.is("slack", three.slack(0), 1 + 0 + 1);
+        three.set(0, 0);
+        Due.is("turns of 2 18 2", three.turns(0), 0);
+        Due.is("slack", three.slack(0), 0);
+    }
+
+    private static void levelAndCostCountInEachCall() {
+        Due.says("each brought to its LEVEL: in each call");
+        WarpDesk level = Due.desk("series 5 5 9 gap 0 0 1; query a 5 5 6; query b 1 0 0; apart 1;");
+        ranked(level, 0, 3, 4, 15);
+        Due.is("whose", level.whose(4, 3), 1);
+        Due.is("fired", level.fired(2), 2);
+        level.set(1, 2);
+        ranked(level, 4, 0, 0, 3);
+        Due.is("whose", level.whose(4, 3), 0);
+        Due.is("fired", level.fired(0), 1);
+        Due.says("COST plain, square: in each call");
+        WarpDesk cost = Due.desk("series 0 3 gap 2 2; query a 0 0; query b 2 5; apart 1;");
+        ranked(cost, 0, 3, 3, 4);
+        Due.is("whose", cost.whose(3, 2), 1);
+        Due.is("fired", cost.fired(3), 2);
+        cost.set(2, 1);
+        ranked(cost, 3, 8, 0, 9);
+        Due.is("whose", cost.whose(3, 2), 0);
+        Due.is("fired", cost.fired(8), 1);
+    }
+
+    private static void inAFullSeries() {
+        Due.says("all WINDOWS of a SERIES of 160");
+        // Sums of two: 10 all along, 6 and 2 and 6 around the places 20, 100 and 157.
+        int[] lows = {20, 100, 157};
+        StringBuilder text = new StringBuilder();
+        for (int i = 0; i < 160; i++) {
+            boolean isLow = i == 20 || i == 21 || i == 100 || i == 101 || i == 157 || i == 158;
+            text.append(isLow ? " 1" : " 5");
+        }
+        WarpDesk desk = of(text.toString());
+        Due.is("turns", desk.turns(0), 3);
+        for (int k = 0; k < 3; k++) {
+            Due.is("kth " + k, desk.kth(0, k, 0), lows[k]);
+            Due.is("rank of " + lows[k], desk.rank(0, lows[k]), k);
+            Due.is("match " + k, desk.match(0, k, 0), lows[k]);
+        }
+        Due.is("within 2", desk.within(0, 2), 3);
+        Due.is("cover 2", desk.cover(0, 2), 6);
+        Due.is("the last one's rank", desk.rank(0, 156), 7);
+        Due.is("the last of all", desk.kth(0, 158, 0), 155);
+        Due.is("search: WINDOWS", desk.search(0, 0), 159);
+        Due.is("search: counted", desk.search(0, 7), 3);
+    }
+
+    private static void nothingOfACallAheadCounts() {
+        Due.says("an answer is by what stands, not by what was asked ahead of it");
+        StringBuilder text = new StringBuilder("series");
+        for (int i = 0; i < 100; i++) {
+            text.append(i == 50 || i == 51 ? " 0" : " 9");
+        }
+        WarpDesk desk = Due.desk(text + "; query a 0 0; query b" + " 9".repeat(16) + "; apart 1;");
+        Due.is("cover of all", desk.cover(0, MOST), 100);
+        Due.is("cover of one", desk.cover(0, 0), 2);
+        Due.is("cover by another QUERY", desk.cover(1, 0), 98);
+        Due.is("cover of one", desk.cover(0, 0), 2);
+        Due.is("matches of all", desk.within(0, MOST), 99);
+        Due.is("matches of the other", desk.within(1, 0), 35 + 33);
+        desk.set(3, 99);
+        Due.is("matches with another APART", desk.within(0, MOST), 1);
+        Due.is("no second match", desk.match(0, 1, 0), -2);
+        Due.is("search", desk.search(0, 0), 99);
+        Due.is("search of the other", desk.search(1, 0), 85);
+        Due.is("search again", desk.search(0, 7), 3);
+        Due.is("search again", desk.search(0, 7), 3);
+        Due.is("the longer way", desk.way(1, 0, -1), 16);
+        Due.is("the shorter way", desk.way(0, 0, -1), 2);
+        Due.is("behind its end", desk.way(0, 0, 2), -1);
+        desk.drop(100);
+        Due.is("best of nothing", desk.best(0, 0), -2);
+        Due.is("matches of nothing", desk.within(0, MOST), 0);
+        Due.is("cover of nothing", desk.cover(0, MOST), 0);
+        Due.is("kth of nothing", desk.kth(0, 0, 1), -2);
+        Due.is("turns of nothing", desk.turns(0), 0);
+        Due.is("search of nothing", desk.search(0, 6), 0);
     }
 
     // ---- what is asked changes nothing

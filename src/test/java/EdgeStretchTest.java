@@ -241,6 +241,8 @@ public final class EdgeStretchTest {
         odd(of("9 9 gap 1 1 gap 1 2"), 2, 0, 15);
         odd(of("1 1 gap 9 9 gap 1 2"), 2, 3, 15);
         odd(of("1 1 gap 1 1"), 2, 0, 0);
+        // NEARS 0 0 1 1 0 0: the last two are 4 from the first one, but have one that is nearer.
+        odd(of("0 0 gap 0 0 gap 9 9 gap 9 10 gap 2 2 gap 2 2"), 2, 6, 1);
     }
 
     private static void oddOfAlikeOnesTheFirst() {
@@ -339,6 +341,12 @@ public final class EdgeStretchTest {
         // (158 999) at the end is the odd one: its NEAR is (156 157), two places ahead.
         near(rise, 158, 2, 156, 2 + 842);
         odd(rise, 2, 158, 844);
+        // Each but (7 7) at 100 and 150 is far from all others.
+        StringBuilder far = new StringBuilder();
+        for (int i = 0; i < 160; i++) {
+            far.append(i == 100 || i == 101 || i == 150 || i == 151 ? 7 : 20 + 5 * i).append(' ');
+        }
+        pair(of(far.toString()), 2, 100, 150, 0);
         WarpDesk ends = of("999 5" + " 7".repeat(156) + " 999 5");
         pair(ends, 2, 0, 158, 0);
         near(ends, 0, 2, 158, 0);
